@@ -1,4 +1,5 @@
 import java.lang.reflect.Method;
+import java.lang.reflect.Modifier;
 import java.util.HashMap;
 import java.util.Map;
 
@@ -37,7 +38,9 @@ final class Calls {
     static Map<String, Method> methodsOf(Class<?> type) {
         Map<String, Method> methods = new HashMap<>();
         for (Method method : type.getDeclaredMethods()) {
-            methods.put(method.getName(), method);
+            if (!Modifier.isPrivate(method.getModifiers())) {
+                methods.put(method.getName(), method);
+            }
         }
         return methods;
     }
