@@ -19,7 +19,8 @@ public final class CodeTest {
                 "code(1) -> 2000, code(2) -> 2001, code(3) -> 2002, code(4) -> 3001, code(5) -> 2003, code(6) -> -1");
         Calls.run("24 and 25, empty slots between", "add(0,1,1,0) -> 0, add(12,0,0,0) -> 1, addTemplate(0,1,3,0) -> 0",
                 "pack() -> 1, codeLength() -> 3, code(0) -> 3005, code(1) -> 2000, code(2) -> 2001");
-        Calls.run("24 and 25, without instructions", "pack() -> 0, codeLength() -> 0, code(0) -> -1, codeIndex(0) -> -1");
+        Calls.run("24 and 25, without instructions", "pack() -> 0, codeLength() -> 0, code(0) -> -1",
+                "codeIndex(0) -> -1");
     }
 
     private static void emptySequences() {

@@ -143,7 +143,8 @@ public final class MachineTest {
 
     private static void runRefusals() {
         Calls.run("31, refusals", "run(-1) -> -2, run(301) -> -2, run(2147483647) -> -2, run(-2147483648) -> -2",
-                "add(0,1,5,0) -> 0, add(10,0,2,0) -> 1, run(0) -> -6, run(300) -> -6, run(301) -> -2, register(1) -> 0");
+                "add(0,1,5,0) -> 0, add(10,0,2,0) -> 1, run(0) -> -6, run(300) -> -6, run(301) -> -2",
+                "register(1) -> 0");
     }
 
     private static void blocksOfRunBundles() {
@@ -168,7 +169,8 @@ public final class MachineTest {
     }
 
     private static void groupsOfRunBundles() {
-        Calls.run("32, values of the group's beginning", "add(1,3,1,2) -> 0, add(0,1,5,0) -> 1, addTemplate(0,0,0,0) -> 0",
+        Calls.run("32, values of the group's beginning", "add(1,3,1,2) -> 0, add(0,1,5,0) -> 1",
+                "addTemplate(0,0,0,0) -> 0",
                 "setRegister(1,7) -> 1, setRegister(2,8) -> 1, pack() -> 1, runBundles(1) -> 1, register(3) -> 15",
                 "register(1) -> 5");
         Calls.run("32, memory of the group's beginning", "add(8,1,2,0) -> 0, add(9,0,2,3) -> 1",
@@ -212,13 +214,10 @@ public final class MachineTest {
         Calls.run("33, as many blocks as steps", "add(2,1,1,2) -> 0, add(11,0,0,1) -> 1, add(12,0,0,0) -> 2",
                 "add(10,0,1,0) -> 3, addTemplate(1,3,3,0) -> 0, setRegister(2,1) -> 1, setRegister(1,149) -> 1",
                 "pack() -> 4, blockBegin(1) -> 1, compare(299) -> 1, compare(298) -> -7, runBundles(100) -> -7");
-        Calls.run("33, three hundred blocks", "add(10,0,1,0) -> 0, add(2,1,1,2) -> 1, add(11,0,1,1) -> 2",
-                "add(10,0,4,0) -> 3, add(12,0,0,0) -> 4, add(10,0,2,0) -> 5, addTemplate(1,3,3,0) -> 0",
-                "setRegister(2,1) -> 1, setRegister(1,148) -> 1, pack() -> 6, compare(298) -> -7, compare(299) -> 1",
-                "register(1) -> 148");
-        Calls.run("33, at the last step", "add(2,1,1,2) -> 0, add(11,0,0,1) -> 1, add(0,3,1,0) -> 2, add(10,0,5,0) -> 3",
-                "add(10,0,1,0) -> 4, add(12,0,0,0) -> 5, addTemplate(1,3,3,0) -> 0, setRegister(2,1) -> 1",
-                "setRegister(1,149) -> 1, pack() -> 5, compare(300) -> -7, setRegister(1,148) -> 1, compare(299) -> 1");
+        Calls.run("33, three hundred steps, each a block", "add(10,0,1,0) -> 0, add(2,1,1,2) -> 1",
+                "add(11,0,1,1) -> 2, add(12,0,0,0) -> 3, add(10,0,2,0) -> 4, addTemplate(1,3,3,0) -> 0",
+                "setRegister(2,1) -> 1, setRegister(1,149) -> 1, pack() -> 5, compare(300) -> 1, compare(299) -> -7",
+                "register(1) -> 149, setRegister(1,150) -> 1, compare(300) -> -7");
     }
 
     private static void compareRefusals() {

@@ -53,7 +53,8 @@ public final class PackingTest {
     }
 
     private static void orderOfInstructions() {
-        Calls.run("16, the next one waits for its slot", "add(8,1,2,0) -> 0, add(0,3,5,0) -> 1, addTemplate(1,0,0,4) -> 0",
+        Calls.run("16, the next one waits for its slot", "add(8,1,2,0) -> 0, add(0,3,5,0) -> 1",
+                "addTemplate(1,0,0,4) -> 0",
                 "pack() -> 1, bundle(0,0) -> -4, bundle(0,1) -> 0, bundle(0,2) -> 1");
         Calls.run("16, no later one comes before", "add(7,1,2,2) -> 0, add(1,3,1,1) -> 1, add(0,4,5,0) -> 2",
                 "addTemplate(2,0,0,4) -> 0, pack() -> 4, bundle(0,1) -> -4, bundle(0,2) -> -4, bundle(1,1) -> -4",
@@ -63,7 +64,8 @@ public final class PackingTest {
     }
 
     private static void latencies() {
-        Calls.run("16, a multiplication", "add(7,1,2,2) -> 0, add(7,3,1,1) -> 1, addTemplate(2,2,2,7) -> 0, pack() -> 2",
+        Calls.run("16, a multiplication", "add(7,1,2,2) -> 0, add(7,3,1,1) -> 1, addTemplate(2,2,2,7) -> 0",
+                "pack() -> 2",
                 "placeOf(0,2) -> 0, placeOf(1,0) -> 1, placeOf(1,1) -> 0, placeOf(1,2) -> 3, cycles(0) -> 6");
         Calls.run("16, a load", "add(8,1,2,0) -> 0, add(8,3,1,0) -> 1, addTemplate(0,0,0,7) -> 0, pack() -> 1",
                 "placeOf(1,1) -> 2, placeOf(1,2) -> 2, cycles(0) -> 4, emptySlots() -> 1");
