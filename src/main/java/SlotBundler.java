@@ -794,6 +794,7 @@ public final class SlotBundler {
         private final int[] groupOf = new int[MOST_INSTRUCTIONS];
         private final int[] cyclesOf = new int[MOST_INSTRUCTIONS];
         private final int[] codeIndexOf = new int[MOST_INSTRUCTIONS];
+        /** Long enough: a bundle writes at most one number of its own, and each instruction one. */
         private final int[] code = new int[MOST_BUNDLES + MOST_INSTRUCTIONS];
         private int codeLength;
         private int count;
