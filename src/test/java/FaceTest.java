@@ -69,7 +69,9 @@ public final class FaceTest {
         for (Class<?> inside : SlotBundler.class.getDeclaredClasses()) {
             same(inside.getName(), Modifier.isStatic(inside.getModifiers()), true);
             for (Method method : inside.getDeclaredMethods()) {
-                same(inside.getName() + "." + method.getName(), method.getParameterCount() <= 7, true);
+                String name = inside.getName() + "." + method.getName();
+                same(name, method.getParameterCount() <= 7, true);
+                same(name, methods.stream().anyMatch(face -> face.contains(" " + method.getName() + "(")), false);
             }
         }
     }

@@ -323,6 +323,10 @@ public final class MachineEdgeTest {
         Calls.run("33, from the present registers", COUNTDOWN, "pack() -> 1, setRegister(1,3), compare(6) -> 1",
                 "compare(5) -> -7, register(1) -> 3, setRegister(1,2), compare(4) -> 1, compare(3) -> -7",
                 "setRegister(1,0), compare(300) -> -7, register(1) -> 0, register(2) -> 1");
+        Calls.run("33, from the present memory", "add(8,1,2,0), add(11,0,0,1), addTemplate(0,2,3,4), pack() -> 3",
+                "compare(2) -> 1, setMemory(0,1), compare(300) -> -7, setMemory(0,0), compare(2) -> 1",
+                "compare(1) -> -7, setRegister(2,-1), compare(2) -> 1, setMemory(15,1), compare(300) -> -7",
+                "memory(15) -> 1");
         Calls.run("Details: executed for as many blocks as it needs", "add(10,0,1,0), add(2,1,1,2), add(11,0,1,1)",
                 "add(12,0,0,0), add(10,0,2,0), addTemplate(1,3,3,0), setRegister(2,1), pack() -> 5, setRegister(1,149)",
                 "compare(300) -> 1, compare(299) -> -7, runBundles(100) -> -7, setRegister(1,150), compare(300) -> -7");

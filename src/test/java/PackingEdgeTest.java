@@ -220,6 +220,9 @@ public final class PackingEdgeTest {
         Twins.refuse("16, IMPOSSIBLE if there is a block, but no template", "add(12,0,0,0)", "pack() -> -8");
         Twins.refuse("16, IMPOSSIBLE if there is a block, but no template", States.FULL + ", clearTemplates() -> 8",
                 "pack() -> -8");
+        Calls.run("16, IMPOSSIBLE if there is a block, but no template", "add(0,1,5,0), addTemplate(1,1,1,4)",
+                "pack() -> 1, unpack(), clearTemplates() -> 1, pack() -> -8, least(0,4) -> -4, bundleCount() -> -5",
+                "addTemplate(2,2,2,7) -> 0, pack() -> -8, addTemplate(1,1,1,4) -> 1, pack() -> 1, bundle(0,3) -> 1");
         Calls.run("Changes: a program without instructions can be packed", "pack() -> 0, bundleCount() -> 0",
                 "unpack() -> 0",
                 "addTemplate(0,0,0,0), pack() -> 0, bundleCount() -> 0, bundle(0,0) -> -1, cycles(0) -> -1",
@@ -317,6 +320,9 @@ public final class PackingEdgeTest {
                 "unpack(), clearTemplates(), addTemplate(2,1,1,3), pack() -> 1, cycles(0) -> 3, unpack()",
                 "clearTemplates(), addTemplate(2,1,3,7), pack() -> 2, placeOf(2,2) -> 4, cycles(0) -> 5");
         Calls.run(title, "add(0,1,2,0), addTemplate(3,3,1,7), pack() -> 1, placeOf(0,2) -> 2, cycles(0) -> 3");
+        Calls.run("21, not those of an earlier packing", "add(0,1,2,0), add(12,0,0,0), addTemplate(3,3,1,7)",
+                "addTemplate(3,3,3,3), pack() -> 2, cycles(0) -> 4, unpack(), clearTemplates(), addTemplate(1,3,3,0)",
+                "pack() -> 1, cycles(0) -> 1, cycles(1) -> -1");
     }
 
     private static void emptySlots() {

@@ -31,6 +31,7 @@ public final class ProgramEdgeTest {
         refusedCallsAreNoChanges();
         undoneChangesAreGone();
         restIsNoPartOfTheHistory();
+        fiveHundredAndTwelveCalls();
         Calls.end("ProgramEdgeTest");
     }
 
@@ -290,5 +291,16 @@ public final class ProgramEdgeTest {
                 "templateCount() -> 2, register(0) -> 1, register(1) -> 5, memory(0) -> 2", Calls.times(8, "undo()"),
                 "undo() -> 0, size() -> 0, templateCount() -> 2, register(0) -> 1, register(1) -> 5, memory(0) -> 2",
                 "clearTemplates() -> 2, undo() -> -4, templateCount() -> 0");
+    }
+
+    private static void fiveHundredAndTwelveCalls() {
+        String title = "An object is used for at most 512 calls";
+        SlotBundler bundler = Calls.run(title, Calls.times(40, "add(0,1,5,0)"));
+        for (int k = 0; k < 458; k++) {
+            Calls.due(title, bundler.set(k % 40, 0, 1, k, 0), 0);
+        }
+        Calls.go(title, bundler, "undo() -> 9, part(17,2) -> 1417, part(16,2) -> 1456, addTemplate(1,1,1,7) -> 0",
+                "pack() -> 14, least(0,4) -> -4, cycles(0) -> 40, codeLength() -> 54, code(53) -> 2039",
+                "compare(40) -> 1, run(40) -> 40, runBundles(1) -> 40, unpack() -> 14, size() -> 40");
     }
 }
